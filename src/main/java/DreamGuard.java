@@ -93,25 +93,22 @@ public final class DreamGuard {
         if (sort != FORT_SORT && sort != LAW_SORT) {
             return NO_SUCH_SORT;
         }
-        return reads(sort) ? NONE : tape.position;
+        boolean fits = sort == FORT_SORT ? fortReader.readFort() : lawReader.readLaw();
+        return fits ? NONE : tape.position;
     }
 
     public int text(int sort) {
-        if (sort == FORT_SORT && reads(sort)) {
+        if (sort == FORT_SORT && fortReader.readFort()) {
             fortReader.settle(fort);
             beginFort();
             tape.length = 0;
             return fort.men;
         }
-        if (sort == LAW_SORT && laws.count < LAWS_ROOM && reads(sort)) {
+        if (sort == LAW_SORT && laws.count < LAWS_ROOM && lawReader.readLaw()) {
             tape.length = 0;
             return laws.add(lawReader.code, lawReader.size);
         }
         return NONE;
-    }
-
-    private boolean reads(int sort) {
-        return sort == FORT_SORT ? fortReader.readFort() : lawReader.readLaw();
     }
 
     private void beginFort() {
@@ -822,15 +819,15 @@ public final class DreamGuard {
 
         /** The sign at which the reader stands, blanks too. */
         int here() {
-            return position >= 0 && position < length ? signs[position] : END;
+            return position < length ? signs[position] : END;
         }
 
         /** The next sign that is no blank: the reader stands at it then. */
         int peek() {
-            while (position < length && here() == BLANK) {
+            while (position < length && signs[position] == BLANK) {
                 position++;
             }
-            return here();
+            return position < length ? signs[position] : END;
         }
 
         boolean take(int sign) {
@@ -1053,13 +1050,27 @@ public final class DreamGuard {
         }
 
         private boolean readUnit(int depth, boolean begun) {
-            if (begun) {
-                return readComparison(depth);
-            }
             int sign = tape.peek();
-            if (sign != '!' && sign != '(') {
-                return readSum(depth) && readComparison(depth);
+            if (!begun && (sign == '!' || sign == '(')) {
+                return readNested(sign, depth);
             }
+            if (!begun && !readSum(depth)) {
+                return false;
+            }
+            int comparison = tape.peek();
+            if (!isComparison(comparison)) {
+                return false;
+            }
+            tape.position++;
+            if (!readSum(depth)) {
+                return false;
+            }
+            emit(-comparison);
+            return true;
+        }
+
+        /** What ! turns round, or what ( and ) hold. */
+        private boolean readNested(int sign, int depth) {
             if (depth >= DEEPEST) {
                 return false;
             }
@@ -1071,19 +1082,6 @@ public final class DreamGuard {
                 return false;
             }
             emit(-'!');
-            return true;
-        }
-
-        private boolean readComparison(int depth) {
-            int sign = tape.peek();
-            if (!isComparison(sign)) {
-                return false;
-            }
-            tape.position++;
-            if (!readSum(depth)) {
-                return false;
-            }
-            emit(-sign);
             return true;
         }
 

@@ -17,6 +17,7 @@ public final class ActTest {
         nightsGoBy();
         bounds();
         lastNight();
+        restBeforeLastNight();
         snowing();
         years();
         undoing();
@@ -242,6 +243,27 @@ public final class ActTest {
         CHECK.same("NIGHT", x.count(4), 999);
     }
 
+    private static void restBeforeLastNight() {
+        DreamGuard x = Check.fort("mn2b5;mn2b2");
+        for (int k = 0; k < 16; k++) {
+            x.nights(60);
+        }
+        x.nights(36);
+        x.bed(0, 7);
+        x.nights(2);
+        x.bed(0, 5);
+        CHECK.same("RESTED in two, but one night is left", x.most(3), NONE);
+        CHECK.same("nights(1), the last", x.nights(1), 999);
+        CHECK.same("TIRED", x.count(5), 1);
+        CHECK.same("RESTED in one, but none is left", x.most(3), NONE);
+        x.undo();
+        x.undo();
+        x.undo();
+        CHECK.same("TIRED", x.count(5), 1);
+        x.bed(0, 5);
+        CHECK.same("RESTED in one, and two are left", x.most(3), 1);
+    }
+
     private static void snowing() {
         DreamGuard x = new DreamGuard();
         CHECK.fails("snow(0) at first", x.snow(0));
@@ -376,6 +398,16 @@ public final class ActTest {
         }
         CHECK.same("log(3, 0)", x.log(3, 0), NONE);
         CHECK.same("LOG", x.count(10), 3);
+        DreamGuard y = Check.fort("sh10n1;mn10;mn10;mn10;mn10;mn10;mn10");
+        y.nights(1);
+        CHECK.same("all hours unwatched", y.log(0, 0), 60);
+        CHECK.same("none is woken", y.log(0, 1), 0);
+        CHECK.same("the gate in all of them", y.log(0, 2), 60);
+        DreamGuard z = Check.fort("sh6n1;mn1;mn1b1;mn1b2;mn1b3;mn1b4;mn1b5");
+        z.nights(1);
+        CHECK.same("none unwatched", z.log(0, 0), 0);
+        CHECK.same("all are woken", z.log(0, 1), 63);
+        CHECK.same("no gate", z.log(0, 2), 0);
     }
 
     private static void images() {

@@ -110,6 +110,8 @@ public final class MenTest {
         x.seen(0, 0, true);
         whoIs(x, 7);
         whoIs(x, 8, 0);
+        DreamGuard all = Check.fort("mn0;mn0;mn0;mn0;mn0;mn0");
+        whoIs(all, 9, 0, 1, 2, 3, 4, 5, 9);
         DreamGuard y = Check.fort("mn9d9e0b0;mn9d9e0b0;sh10n20");
         CHECK.same("GATE", y.night(1), 0);
         whoIs(y, 9, 0, 1, 9);
@@ -220,6 +222,8 @@ public final class MenTest {
         CHECK.same("shares(0, 100), trained", x.shares(0, 100), 25);
         DreamGuard y = Check.fort("me0;me0");
         CHECK.same("shares of no eyes", y.shares(0, 100), 0);
+        DreamGuard z = Check.fort("me1;me0");
+        CHECK.same("shares of one eye", z.shares(0, 7), 7);
     }
 
     private static void watchers() {
@@ -242,6 +246,15 @@ public final class MenTest {
         CHECK.same("TIREDEST, the lowest", x.most(0), 0);
         CHECK.same("SOUNDEST, the lowest", x.most(1), 0);
         CHECK.same("KEENEST, the lowest", x.most(2), 2);
+        DreamGuard y = Check.fort("mn2e1b0;mn3e2d0b6;mn1b3");
+        CHECK.same("KEENEST", y.most(2), 2);
+        y.train(1);
+        y.train(1);
+        y.train(1);
+        CHECK.same("KEENEST, the lowest", y.most(2), 1);
+        y.nights(1);
+        CHECK.same("TIREDEST", y.most(0), 1);
+        CHECK.same("SOUNDEST", y.most(1), 1);
         CHECK.same("most(5)", x.most(5), NONE);
         CHECK.same("most(-1)", x.most(-1), NONE);
         x.nights(1);

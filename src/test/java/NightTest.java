@@ -206,6 +206,13 @@ public final class NightTest {
         CHECK.same("stagger(0)", x.stagger(0), 0);
         x.swap(1, 2);
         CHECK.same("stagger(0)", x.stagger(0), NONE);
+        DreamGuard turned = Check.fort("sh4;mn0;mn4;mn0;mn4");
+        turned.swap(0, 1);
+        CHECK.same("1 first, then 0, 2, 3", turned.stagger(0), NONE);
+        turned.swap(0, 3);
+        CHECK.same("1 first, then 3, 2, 0", turned.stagger(0), NONE);
+        turned.swap(3, 2);
+        CHECK.same("1 first, then 2, 3, 0", turned.stagger(0), 0);
         DreamGuard y = Check.fort("sh4n1;mn2d9;mn2d9b2");
         CHECK.same("all are woken", y.night(3), 3);
         CHECK.same("stagger", y.stagger(1), 2);
@@ -239,6 +246,10 @@ public final class NightTest {
         six.train(4);
         CHECK.same("ring(0) of six", six.ring(0), 12354);
         CHECK.same("ring(1) of six", six.ring(1), 0);
+        DreamGuard greatest = Check.fort("sn9;mn1e5;mn1e4b1;mn1e3b2;mn1e2b3;mn1e1b4;mn1e0b5");
+        Check.addLaw(greatest, "y:h=0&e=4|h=5&e=5|h=4&e=0|h=3&e=1|h=2&e=2|h=1&e=3?0;y:9");
+        CHECK.same("ring(0), the greatest row", greatest.ring(0), 54321);
+        CHECK.same("ring(1)", greatest.ring(1), 0);
         DreamGuard last = Check.fort("sn3;mn1d5e0;mn1d5e6b1;mn1d5e6b2;mn1d5e6b3");
         CHECK.same("ring(1) of four", last.ring(1), 1);
     }

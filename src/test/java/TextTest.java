@@ -46,6 +46,11 @@ public final class TextTest {
         CHECK.same("feed of 11", y.feed(-1, -1, 0x00010101, 0, 0), DreamGuard.NONE);
         CHECK.same("what is refused changes nothing", y.count(2), 230);
         CHECK.same("feed of 10", y.feed(-1, -1, 0x00010001, 0, 0), 240);
+        CHECK.holds("end(239)", y.end(239));
+        CHECK.same("feed of 2 at the end", y.feed(0, 0, 0, 0x01000000, 1), DreamGuard.NONE);
+        CHECK.same("feed of 2 at the end", y.feed(0, 0, 0, 0x01010000, 0), DreamGuard.NONE);
+        CHECK.same("feed of 2 at the end", y.feed(0, 0, 0, 0, 0x00010100), DreamGuard.NONE);
+        CHECK.same("feed of 1 at the end", y.feed(0, 0, 0, 0, 1), 240);
     }
 
     private static void ending() {
@@ -109,6 +114,8 @@ public final class TextTest {
         fort("m1;m", 1);
         fort("m;mn8", -1);
         fort("m;mn9", 5);
+        fort("mn9;m", 5);
+        fort("mb8;m", 5);
         fort("m;mn9;sh9", -1);
         fort("sh4;m;mn5 ", 10);
         fort("sh4;m;mb3", -1);
@@ -380,6 +387,7 @@ public final class TextTest {
         worth("y:!(d=4|e=7)?1;y:2", 2);
         worth("y:!d=5&e=7?1;y:2", 1);
         worth("y:d=4|d=4|d=4?3", 3);
+        worth("y:d" + "+w-w".repeat(58) + "+w+w", 6);
         worth("y:d+1=i+3&d>i?0011", 11);
         worth(" y : ! ( d = 5 ) ? [ d + 1 ] * 2 ; y : 3 ", 10);
     }
