@@ -635,8 +635,8 @@ final class CallEdges {
         none("awake(0)", x -> x.awake(0));
         edges.same("awake(0), all", Check.fort("mn0;mn0;mn0;mn0;mn0;mn0").awake(0), 63);
         edges.same("awake(7), none", Check.fort("mn8;mn8;mn8;mn8;mn8;mn8").awake(7), 0);
-        edges.promise(37, "TIREDEST (0), SOUNDEST (1), KEENEST (2), RESTED (3; NONE: not within 60), GATE opened in all (4). NONE: no "
-            + "FORT, no such what.");
+        edges.promise(37, "TIREDEST (0), SOUNDEST (1), KEENEST (2), RESTED (3; NONE: not within 60), GATE opened in all (4). "
+            + "NONE: no FORT, no such what.");
         for (int what = 0; what < 5; what++) {
             int which = what;
             none("most(" + what + ")", x -> x.most(which));
@@ -672,8 +672,8 @@ final class CallEdges {
             return x;
         });
         none("back()", x -> x.back());
-        edges.promise(41, "0 MEN, 1 LAWS, 2 bytes of the TAPE, 3 the LAW that holds (NONE), 4 the NIGHT, 5 TIRED of all, 6 DREAMT of "
-            + "all, 7 SNOW, 8 SEEN, 9 SAID, 10 how long the LOG is, 11 ACTS that can be UNDONE. HIDDEN for others.");
+        edges.promise(41, "0 MEN, 1 LAWS, 2 bytes of the TAPE, 3 the LAW that holds (NONE), 4 the NIGHT, 5 TIRED of all, "
+            + "6 DREAMT of all, 7 SNOW, 8 SEEN, 9 SAID, 10 how long the LOG is, 11 ACTS that can be UNDONE. HIDDEN for others.");
         hidden("count(-1)", x -> x.count(-1));
         hidden("count(12)", x -> x.count(12));
         hidden("count(least)", x -> x.count(Integer.MIN_VALUE));
